@@ -1,0 +1,48 @@
+import java.util.ArrayList;
+import java.util.List;
+
+/** Runs the project's tests, and counts them. */
+final class AllTests {
+    /** A test; it fails by throwing. */
+    interface Test {
+        void run() throws Exception;
+    }
+
+    private final List<String> names = new ArrayList<>();
+    private final List<Test> tests = new ArrayList<>();
+
+    private AllTests() {
+    }
+
+    void add(String name, Test test) {
+        names.add(name);
+        tests.add(test);
+    }
+
+    private int failures() {
+        int failed = 0;
+        for (int i = 0; i < tests.size(); i++) {
+            try {
+                tests.get(i).run();
+            } catch (Exception | AssertionError e) {
+                failed++;
+                System.out.println("FAIL " + names.get(i) + ": " + e);
+            }
+        }
+        return failed;
+    }
+
+    public static void main(String[] args) {
+        AllTests all = new AllTests();
+        BoardTests.addTo(all);
+        WayTests.addTo(all);
+        SongTests.addTo(all);
+        TextTests.addTo(all);
+        AccountTests.addTo(all);
+        int failed = all.failures();
+        System.out.println(all.tests.size() - failed + " passed, " + failed + " failed");
+        if (failed > 0) {
+            System.exit(1);
+        }
+    }
+}
