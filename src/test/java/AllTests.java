@@ -1,3 +1,4 @@
+import java.nio.file.Path;
 import java.util.ArrayList;
 import java.util.List;
 
@@ -32,13 +33,16 @@ final class AllTests {
         return failed;
     }
 
-    public static void main(String[] args) {
+    /** Takes the file of the class, whose words are looked at too. */
+    public static void main(String[] args) throws Exception {
         AllTests all = new AllTests();
         BoardTests.addTo(all);
         WayTests.addTo(all);
         SongTests.addTo(all);
         TextTests.addTo(all);
         AccountTests.addTo(all);
+        ModelTests.addTo(all);
+        RuleTests.addTo(all, Path.of(args[0]));
         int failed = all.failures();
         System.out.println(all.tests.size() - failed + " passed, " + failed + " failed");
         if (failed > 0) {

@@ -146,10 +146,13 @@ final class TextTests {
         isRun("t0", 1, "cabdefghi abcdefghi ------ 3x3 9 0 1 0 0 0 0 0 0 1");
         isRun("t11", 1, "abfdeighc abcdefghi ------ 3x3 9 0 1 0 0 0 0 0 0 1");
         isRun("t007", 1, "dbcgefahi abcdefghi ------ 3x3 9 0 1 0 0 0 0 0 0 1");
+        isRun("t10", 1, "abidecghf abcdefghi ------ 3x3 9 0 1 0 0 0 0 0 0 1");
         isRun("s08", 1, "ibcdefgha abcdefghi ------ 3x3 9 0 0 1 0 0 0 0 0 1");
         isRun("x5", 1, "abcdefghi abcdefghi -----# 3x3 9 1 0 0 0 0 0 0 0 1");
         isRun("r0/1", 1, "abcdefhig abcdefghi ------ 3x3 9 0 1 0 1 0 0 0 0 1");
         isRun("r968/1", 1, Look.state(scrambled(968, 1)));
+        isRun("r100/2", 1, Look.state(scrambled(100, 2)));
+        isRun("r509/4", 1, Look.state(scrambled(509, 4)));
         isRun("r12/9", 1, Look.state(scrambled(12, 9)));
     }
 
@@ -175,7 +178,8 @@ final class TextTests {
         VowelTorus x = Make.barred(5);
         x.turn(0);
         String before = Look.state(x);
-        String[] wrong = {"t2;t12", "b22;t8", "b22;b14", "s01;p9a", "g0.;g9a", "x0;x6", "r5/3;r5/0", "t2;s09", "t2;s90"};
+        String[] wrong = {"t2;t12", "b22;t8", "b22;b14", "s01;p9a", "g0.;g9a", "x0;x6", "r5/3;r5/0", "t2;s09",
+            "t2;s90"};
         for (String text : wrong) {
             Check.fails("run of " + text, NO_ARGUMENT, () -> Make.run(x, text));
             Check.is("the state behind " + text, before, Look.state(x));

@@ -12,7 +12,9 @@ final class WayTests {
         all.add("14 away", WayTests::away);
         all.add("14 away round bars", WayTests::awayBarred);
         all.add("14 away with dots and letters alike", WayTests::awayDots);
+        all.add("14 away, all rows of 3 turns", WayTests::awayAll);
         all.add("15 firstTurn", WayTests::firstTurn);
+        all.add("15 firstTurn is the lowest", WayTests::firstTurnLowest);
         all.add("15 firstTurn: none", WayTests::firstTurnNone);
         all.add("16 isOut by letters", WayTests::isOutByLetters);
         all.add("16 isOut by parity", WayTests::isOutByParity);
@@ -100,6 +102,49 @@ final class WayTests {
         isTooFar("a letter that is not there", x);
     }
 
+    /** Both ways are alike, and a turn changes how far it is by one at most. */
+    private static void awayAll() {
+        for (int row = 0; row < 12 * 12 * 12; row++) {
+            VowelTorus x = new VowelTorus();
+            Make.turn(x, row / 144, row / 12 % 12, row % 12);
+            Check.isTrue("3 turns away at most", x.away(false) <= 3);
+            Check.is("by both ways", x.away(true), x.away(false));
+        }
+    }
+
+    private static void firstTurnLowest() {
+        String[] goals = {"abcdefghi", "a.c.e.g.i", "..cd..gh.", "i.......a"};
+        for (int row = 0; row < 4 * 12 * 12; row++) {
+            VowelTorus x = Make.puzzle(3, 3, "abcdefghi", goals[row / 144]);
+            Make.turn(x, row / 12 % 12, row % 12, row % 11);
+            x.bar(row % 7 == 6 ? 2 : row % 7);
+            isLowest(x);
+        }
+    }
+
+    /** A first turn is one behind which the goal is one turn less away. */
+    private static void isLowest(VowelTorus x) {
+        String away = Check.answer(() -> x.away(true));
+        Check.is("away by halves", away, Check.answer(() -> x.away(false)));
+        if (away.startsWith("throws") || away.equals("0")) {
+            Check.fails("firstTurn", NONE, x::firstTurn);
+            return;
+        }
+        int less = Integer.parseInt(away) - 1;
+        int lowest = 0;
+        while (x.isBarred(lowest / 2) || !isAwayBehind(x, lowest, less)) {
+            lowest++;
+        }
+        Check.is("firstTurn of " + Look.board(x), lowest, x.firstTurn());
+    }
+
+    private static boolean isAwayBehind(VowelTorus x, int turn, int less) {
+        x.turn(turn);
+        String away = Check.answer(() -> x.away(true));
+        x.undo();
+        return away.equals(String.valueOf(less));
+    }
+
     private static void firstTurn() {
         for (int turn = 0; turn < 12; turn++) {
             VowelTorus x = new VowelTorus();
@@ -184,6 +229,9 @@ final class WayTests {
         isOut("one dot, one swap with it", true, x, 3, 3, "abcdefghi", ".acdefghi");
         isOut("one dot, one swap beside it", true, x, 3, 3, "abcdefghi", "bacdefgh.");
         isOut("one dot, two swaps", false, x, 3, 3, "abcdefghi", "ba.cefghi");
+        isOut("one dot for the first letter", true, x, 3, 3, "abcdefghi", "b.cdefghi");
+        isOut("one dot for the first letter, at home", false, x, 3, 3, "abcdefghi", ".bcdefghi");
+        isOut("one dot for the last letter", true, x, 3, 3, "lbcdefghi", "b.cdefghi");
         isOut("two dots, one swap", false, x, 3, 3, "abcdefghi", "..bdefghi");
         isOut("two dots, one swap beside", false, x, 3, 3, "abcdefghi", "bacdefg..");
         isOut("one dot, letters alike", false, x, 3, 3, "aacdefghi", "a.cdefgih");
@@ -223,6 +271,8 @@ final class WayTests {
         VowelTorus x = new VowelTorus();
         isOddNone("a dot", x, 3, 3, "abcdefghi", "abcdefgh.");
         isOddNone("another letter", x, 3, 3, "abcdefghi", "abcdefghl");
+        isOddNone("a dot ahead of all", x, 2, 2, "abcd", ".bcd");
+        isOddNone("another letter ahead of all", x, 2, 2, "abcd", "lbcd");
         isOddNone("letters alike", x, 2, 2, "abca", "abca");
         isOddNone("letters alike on the board", x, 2, 2, "aabc", "abcd");
         isOddNone("letters alike in the goal", x, 2, 2, "abcd", "abcc");
