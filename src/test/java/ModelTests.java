@@ -4,8 +4,8 @@ final class ModelTests {
     private static final int CALLS = 512;
     private static final String SIGNS = "abcdefghijkl.m`A0;";
     private static final String[] WORDS = {"t0", "t1", "t4", "t07", "t011", "t12", "b33", "b23", "b22", "b14", "p0a",
-        "p3l", "p9a", "p5e", "g0.", "g4.", "g8b", "g9c", "s01", "s38", "s22", "x0", "x3", "x6", "r17/4", "r999/9", "r10/7", "r308/5",
-        "t10",
+        "p3l", "p9a", "p5e", "g0.", "g4.", "g8b", "g9c", "s01", "s38", "s22", "x0", "x3", "x6",
+        "r17/4", "r999/9", "r10/7", "r308/5", "t10",
         "r5/0", "r1234/1", "t", "p0", ""};
 
     private final VowelTorus x = new VowelTorus();
