@@ -164,20 +164,12 @@ final class AccountTests {
     }
 
     private static void isUndone(String what, VowelTorus x, Check.Call change) {
-        String before = Look.board(x) + counts(x);
+        String before = Look.board(x) + Look.counts(x);
         int could = x.account(9);
         change.make();
         Check.is("what can be undone behind " + what, could + 1, x.account(9));
         Check.is("undo of " + what, could, x.undo());
-        Check.is("the board behind undo of " + what, before, Look.board(x) + counts(x));
-    }
-
-    private static String counts(VowelTorus x) {
-        StringBuilder counts = new StringBuilder();
-        for (int what = 1; what <= 7; what++) {
-            counts.append(' ').append(x.account(what));
-        }
-        return counts.toString();
+        Check.is("the board behind undo of " + what, before, Look.board(x) + Look.counts(x));
     }
 
     private static void undoEach() {
@@ -267,13 +259,13 @@ final class AccountTests {
         x.swap(0, 1);
         x.scramble(3, 1);
         x.save();
-        String before = Look.board(x) + counts(x);
+        String before = Look.board(x) + Look.counts(x);
         int home = x.home();
         Make.run(x, "b22;t0;t0;x1;r9/9;s01");
         x.append('q');
         for (int i = 0; i < 2; i++) {
             Check.is("restore", home, x.restore());
-            Check.is("the board behind it", before, Look.board(x) + counts(x));
+            Check.is("the board behind it", before, Look.board(x) + Look.counts(x));
             Check.is("what can be undone", 0, x.account(9));
             Check.is("the input", 1, x.account(8));
             Check.failsAlone("undo behind restore", IllegalStateException.class, x, x::undo);
@@ -285,7 +277,7 @@ final class AccountTests {
         Check.is("undo", 0, x.undo());
         x.turn(2);
         Check.is("restore", home, x.restore());
-        Check.is("the board behind it", before, Look.board(x) + counts(x));
+        Check.is("the board behind it", before, Look.board(x) + Look.counts(x));
     }
 
     private static void restoreNone() {

@@ -16,6 +16,9 @@ final class AllTests {
     }
 
     void add(String name, Test test) {
+        if (names.contains(name)) {
+            throw new IllegalArgumentException("two tests bear the name " + name);
+        }
         names.add(name);
         tests.add(test);
     }
@@ -41,6 +44,14 @@ final class AllTests {
         SongTests.addTo(all);
         TextTests.addTo(all);
         AccountTests.addTo(all);
+        BoardEdges.addTo(all);
+        TurnEdges.addTo(all);
+        WayEdges.addTo(all);
+        SongEdges.addTo(all);
+        TextEdges.addTo(all);
+        RunEdges.addTo(all);
+        AccountEdges.addTo(all);
+        UndoEdges.addTo(all);
         ModelTests.addTo(all);
         RuleTests.addTo(all, Path.of(args[0]));
         int failed = all.failures();

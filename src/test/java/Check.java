@@ -46,10 +46,10 @@ final class Check {
 
     /** Asks for a refusal, its reason and its detail, and that nothing but these is another one behind it. */
     static void refuses(String what, int reason, int detail, VowelTorus x, Call call) {
-        String before = Look.state(x);
+        String before = Look.allButReason(x);
         fails(what, UnsupportedOperationException.class, call);
         is("the reason of " + what, reason, x.refusal(false));
         is("the detail of " + what, detail, x.refusal(true));
-        is("the state behind " + what, before, Look.state(x));
+        is("all else behind " + what, before, Look.allButReason(x));
     }
 }

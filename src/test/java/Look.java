@@ -4,8 +4,12 @@ final class Look {
     }
 
     static String all(VowelTorus x) {
-        return state(x) + " line " + line(x) + " error " + x.errorPosition() + " refused "
-            + Check.answer(() -> x.refusal(false)) + " " + Check.answer(() -> x.refusal(true));
+        return allButReason(x) + " refused " + Check.answer(() -> x.refusal(false)) + " "
+            + Check.answer(() -> x.refusal(true));
+    }
+
+    static String allButReason(VowelTorus x) {
+        return state(x) + " line " + line(x) + " error " + x.errorPosition();
     }
 
     /** All but the line of text, the error position and the reason. */
@@ -17,8 +21,27 @@ final class Look {
         return seen.toString();
     }
 
+    /** What can be undone and what is saved, too; the puzzle is used up by this. */
+    static String toTheEnd(VowelTorus x) {
+        StringBuilder seen = new StringBuilder(allButReason(x));
+        while (x.account(9) > 0) {
+            x.undo();
+            seen.append(" undone ").append(state(x));
+        }
+        return seen.append(" saved ").append(Check.answer(x::restore)).append(state(x)).toString();
+    }
+
     static String board(VowelTorus x) {
         return letters(x) + " " + goal(x) + " " + bars(x) + " " + x.boardOf(0) + "x" + x.boardOf(1);
+    }
+
+    /** The turns, swaps, scrambles, steps and boards made, and the goals reached. */
+    static String counts(VowelTorus x) {
+        StringBuilder seen = new StringBuilder();
+        for (int what = 2; what <= 7; what++) {
+            seen.append(what == 2 ? "" : " ").append(x.account(what));
+        }
+        return seen.toString();
     }
 
     static String letters(VowelTorus x) {
