@@ -14,6 +14,7 @@ final class UndoEdges {
         undoEach(all);
         undoEight(all);
         undoNot(all);
+        questions(all);
         undoLeaves(all);
         save(all);
         restore(all);
@@ -159,6 +160,43 @@ final class UndoEdges {
         noChange(all, "would", x -> x.would(3));
         noChange(all, "isWell", VowelTorus::isWell);
         noChange(all, "restore without a snapshot", VowelTorus::restore);
+    }
+
+    /** A question leaves all as without it, what can be undone and the snapshot too. */
+    private static void leavesAll(AllTests all, String name, Edges.Call question) {
+        all.add("38 undo: " + name + " is no change, and changes nothing that undo and restore bring back", () -> {
+            VowelTorus x = Make.rich();
+            Check.answer(() -> question.on(x));
+            Check.is("all behind it", Look.toTheEnd(Make.rich()), Look.toTheEnd(x));
+        });
+    }
+
+    private static void questions(AllTests all) {
+        leavesAll(all, "letter", x -> x.letter(8));
+        leavesAll(all, "sign", x -> x.sign(8));
+        leavesAll(all, "isBarred", x -> x.isBarred(5));
+        leavesAll(all, "boardOf", x -> x.boardOf(6));
+        leavesAll(all, "away", x -> x.away(false));
+        leavesAll(all, "away again", x -> x.away(true));
+        leavesAll(all, "firstTurn", VowelTorus::firstTurn);
+        leavesAll(all, "isOut", VowelTorus::isOut);
+        leavesAll(all, "isOdd", x -> x.isOdd(false));
+        leavesAll(all, "isOdd again", x -> x.isOdd(true));
+        leavesAll(all, "home", VowelTorus::home);
+        leavesAll(all, "would of a turn", x -> x.would(11));
+        leavesAll(all, "best", VowelTorus::best);
+        leavesAll(all, "where", x -> x.where(8, 11, 98));
+        leavesAll(all, "far", x -> x.far(0, 8));
+        leavesAll(all, "sings", x -> x.sings(5));
+        leavesAll(all, "singing", VowelTorus::singing);
+        leavesAll(all, "ranked", x -> x.ranked(5));
+        leavesAll(all, "character", x -> x.character(0));
+        leavesAll(all, "errorPosition", VowelTorus::errorPosition);
+        leavesAll(all, "refusal", x -> x.refusal(true));
+        leavesAll(all, "account", x -> x.account(9));
+        leavesAll(all, "isWell of a board with bars", VowelTorus::isWell);
+        leavesAll(all, "meanFar", VowelTorus::meanFar);
+        leavesAll(all, "homeShare", VowelTorus::homeShare);
     }
 
     private static void undoLeaves(AllTests all) {
