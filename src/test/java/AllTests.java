@@ -36,7 +36,7 @@ final class AllTests {
         return failed;
     }
 
-    /** Takes the file of the class, whose words are looked at too. */
+    /** Takes the file of the class and README.md, whose words are looked at too. */
     public static void main(String[] args) throws Exception {
         AllTests all = new AllTests();
         BoardTests.addTo(all);
@@ -54,6 +54,7 @@ final class AllTests {
         UndoEdges.addTo(all);
         ModelTests.addTo(all);
         RuleTests.addTo(all, Path.of(args[0]));
+        ReadmeTests.addTo(all, Path.of(args[1]));
         int failed = all.failures();
         System.out.println(all.tests.size() - failed + " passed, " + failed + " failed");
         if (failed > 0) {

@@ -21,6 +21,21 @@ final class RuleTests {
         "int text()", "int goalText()", "int lineText(int)", "char character(int)", "int append(char)", "int run()",
         "int errorPosition()", "int refusal(boolean)", "int account(int)", "boolean isWell()", "double meanFar()",
         "float homeShare()", "int undo()", "int save()", "int restore()"};
+    private static final String[] THROWN = {"board IllegalArgumentException",
+        "put IndexOutOfBoundsException IllegalArgumentException UnsupportedOperationException",
+        "goal IndexOutOfBoundsException IllegalArgumentException UnsupportedOperationException",
+        "turn IndexOutOfBoundsException UnsupportedOperationException",
+        "swap IndexOutOfBoundsException UnsupportedOperationException", "bar IndexOutOfBoundsException",
+        "scramble IllegalArgumentException", "step UnsupportedOperationException NoSuchElementException",
+        "letter IndexOutOfBoundsException", "sign IndexOutOfBoundsException", "isBarred IndexOutOfBoundsException",
+        "boardOf IllegalArgumentException", "away NoSuchElementException", "firstTurn NoSuchElementException",
+        "isOdd NoSuchElementException", "would IndexOutOfBoundsException", "best NoSuchElementException",
+        "where IndexOutOfBoundsException IllegalArgumentException", "far IndexOutOfBoundsException",
+        "sings IndexOutOfBoundsException", "ranked NoSuchElementException", "lineText IndexOutOfBoundsException",
+        "character IndexOutOfBoundsException", "append IllegalStateException",
+        "run IllegalArgumentException UnsupportedOperationException", "refusal NoSuchElementException",
+        "account IllegalArgumentException", "meanFar ArithmeticException", "undo IllegalStateException",
+        "restore IllegalStateException"};
     private static final String[] NOT_THERE = {"\\bcatch\\b", "\\bfinally\\b", "->", "::", "\\bstatic\\s*\\{",
         "\\bsynchronized\\b", "\\bassert\\b", "\\binstanceof\\b", "\\bpackage\\b", "\\bMath\\.\\w*Exact",
         "\\bprotected\\b", "@", "\\bthrow\\s+(?!new\\b)",
@@ -35,6 +50,7 @@ final class RuleTests {
     static void addTo(AllTests all, Path file) throws Exception {
         RuleTests rules = new RuleTests(Files.readString(file, StandardCharsets.UTF_8));
         all.add("the face", RuleTests::face);
+        all.add("the exceptions that the face names, in their order", RuleTests::thrown);
         all.add("no other member of the face's names", RuleTests::names);
         all.add("the fields", RuleTests::fields);
         all.add("what the file may not have", rules::notThere);
@@ -56,6 +72,20 @@ final class RuleTests {
         Constructor<?>[] constructors = VowelTorus.class.getDeclaredConstructors();
         Check.is("the constructors", 1, constructors.length);
         Check.isTrue("it is public", Modifier.isPublic(constructors[0].getModifiers()));
+    }
+
+    private static void thrown() {
+        Set<String> got = new TreeSet<>();
+        for (Method method : VowelTorus.class.getDeclaredMethods()) {
+            StringBuilder told = new StringBuilder(method.getName());
+            for (Class<?> type : method.getExceptionTypes()) {
+                told.append(' ').append(type.getSimpleName());
+            }
+            if (Modifier.isPublic(method.getModifiers()) && method.getExceptionTypes().length > 0) {
+                got.add(told.toString());
+            }
+        }
+        Check.is("the exceptions of the face", new TreeSet<>(Set.of(THROWN)), got);
     }
 
     private static String told(Method method) {
